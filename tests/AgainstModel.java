@@ -13,9 +13,12 @@ public final class AgainstModel {
   private final GirlShots x = new GirlShots();
   private final Model m = new Model();
   private final StringBuilder said = new StringBuilder();
+  /** In some runs few days go by, so that much can be undone, and much is seen. */
+  private final boolean still;
 
   private AgainstModel(int seed) {
     random = new Random(seed);
+    still = seed % 5 == 0;
   }
 
   public static void main(String[] args) {
@@ -201,13 +204,14 @@ public final class AgainstModel {
       case 2: is("tell " + a + " " + b, x.tell(a, b), m.tell(a, b)); break;
       case 3: is("forget " + a, x.forget(a), m.forget(a)); break;
       case 4: {
+        if (still && random.nextInt(20) > 0) return;
         int n = random.nextInt(25) == 0 ? about(0, 99) : about(0, 2);
         is("go " + n, x.go(n), m.go(n));
         break;
       }
       case 5: is("keep", x.keep(), m.keep()); break;
-      case 6: is("back", x.back(), m.back()); break;
-      default: is("undo", x.undo(), m.undo());
+      case 6: if (!still || random.nextInt(9) == 0) is("back", x.back(), m.back()); break;
+      default: if (!still || m.count(14) > 19 || random.nextInt(4) == 0) is("undo", x.undo(), m.undo());
     }
   }
 

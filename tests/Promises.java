@@ -914,6 +914,15 @@ public final class Promises {
     x = Feeder.told("mark m 9 3;shot s 1 0;has s m 1;law notice strike>45;");
     x.see(1, 0, false);
     Due.is("33 by law", x.struckHow(0), 31);
+    for (int tens = 0; tens < 10; tens++) {
+      x = Feeder.told("mark m 9 3;shot s 1 39;has s m 1;law notice strike=" + 10 * tens + ";");
+      x.see(40, 0, true);
+      Due.is("33 behind the 40th day", x.struckHow(0), 1 << tens);
+      x.see(39, 0, false);
+      Due.is("33 not behind the 39th", x.struckHow(0), 1 << tens);
+      x.see(39, 0, true);
+      Due.is("33 both can't be", x.struckHow(0), 0);
+    }
   }
 
   private static void promise34Chance() {
@@ -951,6 +960,16 @@ public final class Promises {
     x = Feeder.told("mark m 9 3;mark n 9 3;shot s 9 0;shot t 9 1;has s n 1;has t n 2;party p m 1 9;purse 0;law notice plums>0;");
     x.tell(0, 0);
     Due.is("35 she yields", x.tried(0, 0, 2), 0);
+    Due.is("35 n is noticed for the plum that p gives", x.tried(0, 0, 3), x.tried(4, 0, 3));
+    x = Feeder.told("mark m 9 3;shot s 9 0;shot t 9 1;has s m 1;has t m 2;cold 1 1;purse 0;law notice strike>98;");
+    Due.is("35 as it goes nothing is noticed", x.tried(0, 0, 2), 0);
+    Due.is("35 by 99", x.tried(5, 0, 2), 1);
+    x = Feeder.told("mark m 0 3;mark n 9 3;shot s 9 0;shot t 9 1;has s m 2;has t m 2;party p m 1 9;cold 0 0;law notice 0;purse 0;");
+    x.tell(0, 2);
+    Due.is("35 p bribes her", x.tried(0, 0, 2), 2);
+    Due.is("35 p gives nothing", x.tried(2, 0, 2), 0);
+    Due.is("35 no yielding", x.tried(4, 0, 2), 0);
+    Due.is("35 never away: s and t clash", x.tried(1, 0, 2), 1);
   }
 
   private static void promise36Undo() {
@@ -983,6 +1002,26 @@ public final class Promises {
     Due.is("36 twenty at most", x.count(14), 20);
     for (int k = 19; k >= 0; k--) Due.is("36 the latest first", x.undo(), k);
     Due.is("36 the first three stay", x.party(0, 2), 9 + 1 + 2 + 3);
+    x.move(0, 50);
+    x.tell(1, 1);
+    for (int k = 0; k < 6; k++) {
+      x.plums(0, 1 + k);
+      x.move(k % 2, 20 + k);
+      x.tell(k % 2, k / 2 % 2);
+      x.forget(k % 2);
+    }
+    Due.is("36 of each kind", x.count(14), 20);
+    for (int k = 5; k > 0; k--) {
+      Due.is("36 forget", x.undo(), 4 * k - 1);
+      Due.is("36 says again", x.mark(k % 2, 2), k / 2 % 2);
+      x.undo();
+      Due.is("36 says what it was ahead of it", x.mark(k % 2, 2), k == 1 ? 1 : -1);
+      x.undo();
+      Due.is("36 the day again", x.shot(k % 2, 1), k == 1 ? 1 : 18 + k);
+      x.undo();
+      Due.is("36 plums again", x.party(0, 2), 15 + (k + 1) * k / 2);
+    }
+    Due.is("36 no more", x.undo(), -1);
     x.tell(0, 0);
     x.go(1);
     Due.is("36 a day went by", x.undo(), -1);
