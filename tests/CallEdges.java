@@ -639,6 +639,40 @@ public final class CallEdges {
     Due.is("none more", x.order(0), 2);
   }
 
+  private static void edgeOrderCountsWhatIsAgainMore() {
+    GirlShots x = behind(2, "mark m 9 3;shot a 1 0;shot b 1 0;shot c 1 50;has a m 0;has b m 1;");
+    x.tell(0, 2);
+    x.go(1);
+    Due.is("again so far", x.count(8), 1);
+    Due.is("one more", x.order(4), 1);
+    x.go(1);
+    Due.is("again so far", x.count(8), 2);
+    Due.is("none more", x.order(4), 0);
+  }
+
+  private static void edgeOrderAskedTwice() {
+    String text = "mark m 1 2;shot a 1 9;shot b 2 9;has a m 0;has b m 1;law notice strike=cost;purse 0;";
+    GirlShots x = told(text);
+    Due.is("b is first", x.order(0), 1);
+    Due.is("no change", x.order(4), 0);
+    x.tell(0, 0);
+    Due.is("now b is changed whenever", x.order(4), 1);
+    Due.is("of several the first", x.order(0), 0);
+    x.undo();
+    Due.is("b is first", x.order(0), 1);
+  }
+
+  private static void edgeLeastAskedTwice() {
+    GirlShots x = told("mark m 9 3;shot s 5 0;shot t 9 1;has s m 2;has t m 1;purse 0;");
+    Due.is("nothing filmed", x.least(0) * 100 + x.least(6), 0);
+    x.go(1);
+    Due.is("s alone", x.least(0) * 100 + x.least(6), 200);
+    x.go(1);
+    Due.is("t costs more", x.least(0) * 100 + x.least(6), 105);
+    Feeder.read(x, "mark m 9 3;");
+    Due.is("another text", x.least(0) * 100 + x.least(6), 0);
+  }
+
   // Promise 22
 
   private static void edgeNotedByNone() {
@@ -682,6 +716,16 @@ public final class CallEdges {
       x.tell(0, 0);
       Due.is("plums " + wanted, x.bribe(0), wanted <= 20 ? wanted : -2);
       Due.is("left", x.party(0, 2), 0);
+    }
+  }
+
+  private static void edgeBribeBehind20Days() {
+    String text = "mark m 9 2;party p m 1 0;cold 0 ";
+    int[] want = {1, 1, -2, -2};
+    for (int last = 17; last <= 20; last++) {
+      GirlShots x = told(text + last + ";");
+      x.tell(0, 0);
+      Due.is("away up to " + last, x.bribe(0), want[last - 17]);
     }
   }
 
@@ -955,6 +999,15 @@ public final class CallEdges {
     Due.is("full", x.out(0), -1);
     Due.is("full", x.see(1, 0, true), -1);
     Due.is("24", x.count(12), 24);
+  }
+
+  private static void edgeThe24thIsKnown() {
+    for (int said = 0; said < 2; said++) {
+      GirlShots x = told(FILM);
+      for (int k = 0; k < 23; k++) x.see(1, 1, false);
+      Due.is("the 24th", x.see(1, 0, said == 1), 23);
+      Due.is("hat", x.struckHow(0), said == 1 ? 992 : 31);
+    }
   }
 
   private static void edgeOutCountsAsSeen() {
@@ -1238,6 +1291,74 @@ public final class CallEdges {
 
   // questions do nothing
 
+  private static final int QUESTIONS = 26;
+
+  private static long ask(GirlShots x, int question) {
+    switch (question) {
+      case 0: return x.ahead(3, 0);
+      case 1: return x.ahead(9, 1);
+      case 2: return x.ahead(9, 2);
+      case 3: return x.ahead(9, 3);
+      case 4: return x.ahead(9, 4);
+      case 5: return x.agrees();
+      case 6: return x.least(6);
+      case 7: return x.order(0);
+      case 8: return x.order(4);
+      case 9: return x.bribe(0);
+      case 10: return x.without(9);
+      case 11: return x.struckHow(0);
+      case 12: return x.struckHow(1);
+      case 13: return x.chance(3, 9, 1);
+      case 14: return x.tried(0, 0, 9);
+      case 15: return x.tried(1, 0, 9);
+      case 16: return x.tried(2, 0, 9);
+      case 17: return x.tried(3, 0, 9);
+      case 18: return x.tried(4, 0, 9);
+      case 19: return x.tried(5, 0, 9);
+      case 20: return x.law(0, 0, 0);
+      case 21: return x.law(1, 0, 0);
+      case 22: return x.law(2, 0, 0);
+      case 23: return x.tried(2, 1, 9);
+      case 24: return x.noted();
+      default: return x.rest(0, 1, 0);
+    }
+  }
+
+  private static GirlShots asked(int ill) {
+    GirlShots x = behind(1, "mark hat 10 3;mark sea 60 2;mark sun 30 4;shot one 10 0;shot two 20 2;shot six 5 3;shot ten 5 4;has one hat 0;has one sea 1;"
+        + "has two hat 2;has six hat 1;has six sea 0;has ten sun 3;has one sun 2;party p hat 1 9;party q hat 2 3;cold 2 2;purse 40;seed 5;ill " + ill
+        + ";law notice strike+10*times>20 and not away;law yield plums*10>strike;law again cost+said+plums;");
+    x.tell(0, 0);
+    x.see(3, 0, true);
+    x.see(5, 1, false);
+    return x;
+  }
+
+  private static void edgeNoQuestionDisturbsAnother() {
+    for (int ill : new int[] {0, 30, 49, 50, 70, 100}) {
+      long[] alone = new long[QUESTIONS];
+      for (int k = 0; k < QUESTIONS; k++) alone[k] = ask(asked(ill), k);
+      for (int first = 0; first < QUESTIONS; first++) {
+        GirlShots x = asked(ill);
+        for (int second = 0; second < QUESTIONS; second++) {
+          ask(x, first);
+          Due.is("ill " + ill + ": " + second + " behind " + first, ask(x, second), alone[second]);
+        }
+      }
+    }
+  }
+
+  private static void edgeDaysGoByAlikeBehindQuestions() {
+    for (int question = 0; question < QUESTIONS; question++) {
+      GirlShots x = asked(30);
+      GirlShots y = asked(30);
+      ask(x, question);
+      x.go(20);
+      y.go(20);
+      Due.is("behind " + question, look(x).equals(look(y)), true);
+    }
+  }
+
   private static void edgeQuestionsDoNothing() {
     GirlShots x = behind(1, FILM + PARTIES + "ill 30;seed 8;clerk c 3;");
     x.plums(0, 3);
@@ -1293,6 +1414,26 @@ public final class CallEdges {
     for (int k = 1; k <= 20; k++) x.plums(0, 1);
     for (int k = 19; k >= 0; k--) Due.is("left " + k, x.undo(), k);
     Due.is("all of them", x.party(0, 2), 9);
+  }
+
+  private static void edgeUndo20OfEachKind() {
+    // 23 things in turns: the first three can't be undone
+    GirlShots x = told(FILM + PARTIES);
+    for (int k = 0; k < 23; k++) {
+      if (k % 4 == 0) Due.is("plums " + k, x.plums(k / 4 % 2, 1 + k) > 0, true);
+      if (k % 4 == 1) Due.is("day " + k, x.move(k % 3, 10 + k), true);
+      if (k % 4 == 2) Due.is("says " + k, x.tell(k / 4 % 2, 1), true);
+      if (k % 4 == 3) Due.is("forgets " + k, x.forget(k / 4 % 2), true);
+    }
+    GirlShots y = told(FILM + PARTIES);
+    y.plums(0, 1);
+    y.move(1, 11);
+    y.tell(0, 1);
+    for (int k = 19; k >= 0; k--) Due.is("left " + k, x.undo(), k);
+    Due.is("no more", x.undo(), -1);
+    for (int party = 0; party < 2; party++) Due.is("party " + party, x.party(party, 2), y.party(party, 2));
+    for (int shot = 0; shot < 3; shot++) Due.is("shot " + shot, x.shot(shot, 1), y.shot(shot, 1));
+    for (int mark = 0; mark < 2; mark++) Due.is("mark " + mark, x.mark(mark, 2), y.mark(mark, 2));
   }
 
   private static void edgeUndoNotIfADayWentBy() {

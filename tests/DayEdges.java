@@ -530,6 +530,77 @@ public final class DayEdges {
     Due.is("purse", x.count(9), 99 - 28);
   }
 
+  // the last ones of all: the sixth mark, the eighth shot, the fourth party
+
+  private static final String SIX = "mark a 1 6;mark b 2 6;mark c 3 6;mark d 4 6;mark e 5 6;mark f 96 6;";
+  private static final String EIGHT = "shot a 1 0;shot b 1 0;shot c 1 0;shot d 1 0;shot e 1 0;shot f 1 0;shot g 1 0;shot h 8 0;";
+
+  private static void edgeTheEighthShotIsFilmed() {
+    GirlShots x = behind(1, SIX + EIGHT + "has h f 5;");
+    Due.is("all", x.count(6), 8);
+    Due.is("ahead", told(SIX + EIGHT).ahead(1, 0), 8);
+    Due.is("f is in one", x.mark(5, 4), 1);
+    Due.is("f is noticed", x.mark(5, 2), 5);
+  }
+
+  private static void edgeTheEighthShotClashes() {
+    GirlShots x = behind(1, SIX + EIGHT + "has h a 5;");
+    x.tell(0, 4);
+    Due.is("a clash", x.count(10), 1);
+    Due.is("ahead", x.ahead(0, 4), 1);
+    Due.is("of h", x.shot(7, 3), 1);
+    Due.is("least", x.least(0), 5);
+    x.go(1);
+    Due.is("again", x.shot(7, 4), 1);
+    Due.is("purse", x.count(9), 91);
+    Due.is("no clash", x.count(10), 0);
+  }
+
+  private static void edgeTheSixthMark() {
+    GirlShots x = behind(1, SIX + "shot a 1 0;shot b 1 0;has a f 4;has b f 5;purse 0;");
+    Due.is("says", x.mark(5, 2), 4);
+    Due.is("changed", x.way(1, 5), 4);
+    x.tell(5, 3);
+    Due.is("clashes", x.count(10), 2);
+    x = behind(1, SIX + "shot a 1 0;shot b 1 0;has a f 4;has b f 5;cold 0 0;");
+    Due.is("it breaks", x.breaks(), 1);
+    Due.is("a run of one", x.run(), 1);
+  }
+
+  private static void edgeTheSixthMarkOfAShotOfSix() {
+    String six = "has a a 1;has a b 1;has a c 1;has a d 1;has a e 1;has a f 1;";
+    GirlShots x = behind(1, SIX + EIGHT + six + "law again times*10+said;purse 0;cold 0 0;");
+    Due.is("six marks", x.law(2, 0, 0), 60);
+    for (int mark = 0; mark < 6; mark++) x.tell(mark, 0);
+    Due.is("six clash", x.law(2, 0, 0), 66);
+    Due.is("six clash", x.shot(0, 3), 6);
+  }
+
+  private static void edgePlumsForTheSixthMark() {
+    GirlShots x = told(SIX + "shot a 1 9;party p a 1 9;party q b 1 9;party r c 1 9;party s f 1 9;law again plums;law yield plums>strike-90;");
+    x.tell(5, 0);
+    x.go(6);
+    Due.is("given", x.mark(5, 3), 6);
+    Due.is("by the fourth party", x.party(3, 3), 6);
+    Due.is("all of them", x.law(2, 0, 0), 6);
+    Due.is("not yet", x.mark(5, 2), 0);
+    x.go(1);
+    Due.is("seven are more than 96 less 90", x.mark(5, 2), 1);
+  }
+
+  private static void edgeWhatIsBehindTheSixthMarkStays() {
+    GirlShots x = told(SIX + EIGHT + "has a f 1;has b a 1;has c a 1;has d f 2;purse 999;");
+    x.move(1, 50);
+    x.tell(5, 1);
+    x.go(1);
+    Due.is("only d is changed", x.count(7), 1);
+    Due.is("a of b", x.way(1, 0), 1);
+    x.tell(5, 3);
+    x.go(2);
+    Due.is("a and d again", x.count(8), 2);
+    Due.is("a of b", x.way(1, 0), 1);
+  }
+
   // NAMES
 
   private static long law(GirlShots x, int what) {
@@ -704,6 +775,41 @@ public final class DayEdges {
     side("0*(1/0)", ERROR);
     side("not (1/0)", ERROR);
     side("1/0=1/0", ERROR);
+  }
+
+  private static void edgeHowCloselySignsBind() {
+    side("1 or 1 and 0", 1);
+    side("0 and 1 or 1", 1);
+    side("0 and 0 or 1 and 1", 1);
+    side("not 0 and 0", 0);
+    side("not 1 or 1", 1);
+    side("not 2=3", 1);
+    side("1+1=2", 1);
+    side("2=1+1", 1);
+    side("1+2*3", 7);
+    side("2*3+1", 7);
+    side("9-3-2", 4);
+    side("9-3+2", 8);
+    side("100/7/2", 7);
+    side("2*9/4", 4);
+    side("9/4*2", 4);
+    side("1<2 and 2<1", 0);
+    side("3-2<1 or 0", 0);
+    side("(1 or 1) and 0", 0);
+    side("(1+2)*3", 9);
+    side("9-(3-2)", 8);
+  }
+
+  private static void edgeValueOf64Knots() {
+    side("1" + "+1".repeat(30) + "-9", 31 - 9);
+    side("not 1" + "+1".repeat(30) + "-31", 1);
+    side("not 1" + "+1".repeat(30) + "-30", 0);
+    side("0-1" + "+1".repeat(29) + "+7", 35);
+    side("not ".repeat(63) + "0", 1);
+    side("not ".repeat(62) + "0", 0);
+    side("not (".repeat(8) + "not ".repeat(55) + "0" + ")".repeat(8), 1);
+    side("not (".repeat(8) + "not ".repeat(54) + "0" + ")".repeat(8), 0);
+    side("1-(".repeat(8) + "1" + "+1".repeat(23) + ")".repeat(8), 24);
   }
 
   private static void edgeCutTowards0() {

@@ -225,6 +225,22 @@ public final class TextEdges {
     Due.is("not in it", x.way(0, 0), -2);
   }
 
+  private static void edgeWhatWasCountedBeginsAnew() {
+    String film = "mark m 99 3;shot s 9 0;shot t 9 0;shot u 9 1;has s m 0;has t m 1;has u m 2;cold 1 5;law notice away<1;law yield away;";
+    GirlShots x = Feeder.told(film + "purse 50;");
+    x.go(4);
+    Due.is("changed", x.count(7), 1);
+    Due.is("again", x.count(8), 1);
+    Due.is("away", x.count(11), 3);
+    Due.is("away in a row", x.law(1, 0, 0), 3);
+    x.see(1, 0, true);
+    Due.is("seen from the text on, she wasn't away ahead of it", x.struckHow(0), 1023);
+    Feeder.read(x, film);
+    for (int what = 5; what < 15; what++) Due.is("count " + what, x.count(what), what == 9 ? 99 : 0);
+    Due.is("away in a row", x.law(1, 0, 0), 0);
+    Due.is("again of u", x.shot(2, 4), 0);
+  }
+
   private static void edgeSeedWithoutIs0() {
     GirlShots x = Feeder.told("ill 50;");
     GirlShots y = Feeder.told("ill 50;seed 0;");
@@ -238,6 +254,71 @@ public final class TextEdges {
       other |= x.count(11) != z.count(11);
     }
     Due.is("seed 1 is another one", other, true);
+  }
+
+  /** All that a text may have, at most. */
+  private static String fullest() {
+    StringBuilder text = new StringBuilder(times(6, "mark ? 1 6;") + times(8, "shot ? 1 2;"));
+    for (int k = 0; k < 20; k++) text.append("has ").append((char) ('a' + k % 8)).append(' ').append((char) ('a' + k / 8)).append(" 5;");
+    text.append(times(4, "party ? a 5 9;")).append(times(4, "clerk ? 1;")).append(times(3, "cold 1 1;")).append("ill 9;purse 9;seed 9;");
+    text.append("law notice ").append(side(21)).append(";law yield not ").append(side(21)).append(";law again ").append(side(21)).append(';');
+    return text.toString().replace("day", "1");
+  }
+
+  private static void edgeTheFullestText() {
+    GirlShots x = Feeder.told(fullest());
+    int[] want = {6, 8, 4, 4, 64};
+    for (int what = 0; what < 5; what++) Due.is("count " + what, x.count(what), want[what]);
+    int pairs = 0;
+    for (int shot = 0; shot < 8; shot++) for (int mark = 0; mark < 6; mark++) pairs += x.way(shot, mark) == 5 ? 1 : 0;
+    Due.is("pairs", pairs, 20);
+  }
+
+  private static void edgeTheFullestTextAgain() {
+    GirlShots x = new GirlShots();
+    for (int k = 0; k < 5; k++) Due.is("lines", Feeder.read(x, fullest()), 6 + 8 + 20 + 4 + 4 + 3 + 3 + 3);
+  }
+
+  private static void edgeTheFullestTextBehindAFaultOfIt() {
+    String text = fullest();
+    GirlShots x = new GirlShots();
+    Due.is("short", text.length() < 680, true);
+    Due.is("a fault at its end", Feeder.read(x, text + "?"), -1);
+    Due.is("lines", Feeder.read(x, text), 51);
+    for (int n = 0; n <= text.length(); n += 23) {
+      Feeder.feed(x, text);
+      boolean whole = n == 0 || text.charAt(n - 1) == ';';
+      Due.is("cut at " + n, x.text(n) >= 0, whole);
+      Due.is("fault", x.fault(0), whole ? 0 : 1);
+      Due.is("lines", Feeder.read(x, text), 51);
+    }
+  }
+
+  private static void edgeAFaultInBracketsLeavesNoneOpen() {
+    GirlShots x = new GirlShots();
+    for (String fault : new String[] {"law yield ((((((((1", "law yield (((((((((", "law yield (?"}) {
+      Due.is(fault, Feeder.read(x, fault), -1);
+      Due.is("eight", Feeder.read(x, "law yield ((((((((1))))))));"), 1);
+      Due.is("none", Feeder.read(x, "law yield 1);"), -1);
+      Due.is("at it", x.fault(1), 11);
+    }
+  }
+
+  private static void edgeAFaultBehindSignsLeavesNoneWaiting() {
+    for (String fault : new String[] {"law yield 7*", "law yield 7 and ", "law yield not ", "law yield not not not (7+1*?", "law yield 1 or 7-9*?", "law yield 1+1<?"}) {
+      GirlShots x = new GirlShots();
+      Due.is(fault, Feeder.read(x, "law notice 1+1<2 and 7;" + fault), -1);
+      Due.is("lines", Feeder.read(x, "mark m 9 2;law yield 1+2*3;"), 2);
+      Due.is("seven", x.law(1, 0, 0), 7);
+      Due.is("knots", x.count(4), 5);
+    }
+  }
+
+  private static void edgeASideLeavesNothingToTheNextOne() {
+    GirlShots x = Feeder.told("mark m 9 2;shot s 1 9;has s m 1;law notice not (1+2*3<7);law yield 9-3-2;law again 8;");
+    Due.is("notice", x.law(0, 0, 0), 1);
+    Due.is("yield", x.law(1, 0, 0), 4);
+    Due.is("again", x.law(2, 0, 0), 8);
   }
 
   // Promise 4: "Of the latest text() that was not -2 ... (NONE without). NONE for another what."
@@ -430,6 +511,40 @@ public final class TextEdges {
     bad("ill 7;;", 1, 6);
     bad(";", 1, 0);
     bad("ill 7;  purse 8 \n", 1, 17);
+    bad("ill 7 x", 1, 6);
+    bad("ill 7 x;", 1, 6);
+    bad("ill 7 9;", 1, 6);
+    bad("law yield 7 x", 1, 12);
+  }
+
+  private static void edgeASemicolonTooEarly() {
+    bad("mark ; 1 2;", 1, 5);
+    bad("mark a ; 2;", 1, 7);
+    bad("mark a 1;", 1, 8);
+    bad("shot s 1;", 1, 8);
+    bad("clerk c;", 1, 7);
+    bad("cold 1;", 1, 6);
+    bad("ill;", 1, 3);
+    bad("purse;", 1, 5);
+    bad("seed;", 1, 4);
+    bad(PAIR + "has ; m 1;", 1, 26);
+    bad(PAIR + "has s ; 1;", 1, 28);
+    bad(PAIR + "has s m;", 1, 29);
+    bad(PAIR + "party p m 1;", 1, 33);
+  }
+
+  private static void edgeANumberInPlaceOfAWordAndAWordOfANumber() {
+    bad("mark 1 1 2;", 1, 5);
+    bad("mark a b 2;", 1, 7);
+    bad("mark a 1 b;", 1, 9);
+    bad("ill x;", 1, 4);
+    bad("cold 1 x;", 1, 7);
+    bad(PAIR + "has 0 m 1;", 1, 26);
+    bad(PAIR + "has s 0 1;", 1, 28);
+    bad(PAIR + "has s m m;", 1, 30);
+    bad(PAIR + "party 0 m 1 1;", 1, 28);
+    bad(PAIR + "party p 0 1 1;", 1, 30);
+    bad(PAIR + "party p m m 1;", 1, 32);
   }
 
   // "(the length, if more must come)"
