@@ -1416,24 +1416,37 @@ public final class CallEdges {
     Due.is("all of them", x.party(0, 2), 9);
   }
 
-  private static void edgeUndo20OfEachKind() {
-    // 23 things in turns: the first three can't be undone
-    GirlShots x = told(FILM + PARTIES);
-    for (int k = 0; k < 23; k++) {
-      if (k % 4 == 0) Due.is("plums " + k, x.plums(k / 4 % 2, 1 + k) > 0, true);
-      if (k % 4 == 1) Due.is("day " + k, x.move(k % 3, 10 + k), true);
-      if (k % 4 == 2) Due.is("says " + k, x.tell(k / 4 % 2, 1), true);
-      if (k % 4 == 3) Due.is("forgets " + k, x.forget(k / 4 % 2), true);
+  /** The k-th of things in turns: plums, a day, said, forgotten. */
+  private static boolean doThing(GirlShots x, int k) {
+    switch (k % 4) {
+      case 0: return x.plums(k / 4 % 2, 1 + k) > 0;
+      case 1: return x.move(k % 3, 10 + k);
+      case 2: return x.tell(k / 4 % 2, 1);
+      default: return x.forget(k / 4 % 2);
     }
-    GirlShots y = told(FILM + PARTIES);
-    y.plums(0, 1);
-    y.move(1, 11);
-    y.tell(0, 1);
-    for (int k = 19; k >= 0; k--) Due.is("left " + k, x.undo(), k);
-    Due.is("no more", x.undo(), -1);
-    for (int party = 0; party < 2; party++) Due.is("party " + party, x.party(party, 2), y.party(party, 2));
-    for (int shot = 0; shot < 3; shot++) Due.is("shot " + shot, x.shot(shot, 1), y.shot(shot, 1));
-    for (int mark = 0; mark < 2; mark++) Due.is("mark " + mark, x.mark(mark, 2), y.mark(mark, 2));
+  }
+
+  /** Without the counts that go ahead. */
+  private static String lookButUndo(GirlShots x) {
+    return look(x).replaceFirst("(\\S+ ){15}", "");
+  }
+
+  private static String looked(int things, int undone, int left) {
+    GirlShots x = told(FILM + PARTIES);
+    for (int k = 0; k < things; k++) Due.is("thing " + k, doThing(x, k), true);
+    int last = 0;
+    for (int k = 0; k < undone; k++) last = x.undo();
+    if (undone > 0) Due.is("left of " + things + " behind " + undone, last, left);
+    return lookButUndo(x);
+  }
+
+  private static void edgeUndo20OfEachKind() {
+    for (int things = 19; things <= 31; things++) {
+      int most = Math.min(20, things);
+      for (int undone = 1; undone <= most; undone++)
+        Due.is(undone + " undone of " + things, looked(things, undone, most - undone).equals(looked(things - undone, 0, 0)), true);
+      Due.is("no more of " + things, looked(things, most + 1, -1).equals(looked(things - most, 0, 0)), true);
+    }
   }
 
   private static void edgeUndoNotIfADayWentBy() {
@@ -1529,7 +1542,7 @@ public final class CallEdges {
     x.tell(0, 2);
     x.move(2, 50);
     x.keep();
-    String before = look(x).replaceFirst("(\\S+ ){15}", "");
+    String before = lookButUndo(x);
     int[] counts = new int[14];
     for (int what = 0; what < 14; what++) counts[what] = x.count(what);
     x.forget(0);
@@ -1538,7 +1551,7 @@ public final class CallEdges {
     x.go(40);
     Due.is("day", x.back(), 3);
     for (int what = 0; what < 14; what++) Due.is("count " + what, x.count(what), counts[what]);
-    Due.is("all", look(x).replaceFirst("(\\S+ ){15}", "").equals(before), true);
+    Due.is("all", lookButUndo(x).equals(before), true);
     Due.is("nothing to undo", x.count(14), 0);
     GirlShots y = behind(3, FILM + PARTIES + "ill 40;seed 6;cold 1 1;");
     y.tell(1, 1);

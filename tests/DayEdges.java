@@ -103,13 +103,13 @@ public final class DayEdges {
       GirlShots x = told("seed 77;ill " + ill + ";");
       long number = 77;
       int away = 0;
-      for (int day = 0; day < 400; day++) {
+      for (int day = 0; day < 200; day++) {
         number = next(number);
         away += toldOf(number) < ill ? 1 : 0;
         x.go(1);
         Due.is("ill " + ill + " day " + day, x.count(11), away);
       }
-      Due.is("both are seen", away > 0 && away < 400, true);
+      Due.is("both are seen", away > 0 && away < 200, true);
     }
   }
 
@@ -798,6 +798,12 @@ public final class DayEdges {
     side("(1 or 1) and 0", 0);
     side("(1+2)*3", 9);
     side("9-(3-2)", 8);
+    side("(7 or 0)*3", 3);
+    side("(0 or 7)+5", 6);
+    side("(7 and 2)*3", 3);
+    side("(1<2)+4", 5);
+    side("(not 0)+4", 5);
+    side("9-(3 or 4 and 0)", 8);
   }
 
   private static void edgeValueOf64Knots() {
@@ -913,7 +919,7 @@ public final class DayEdges {
     GirlShots y = told("ill 40;seed 9;mark m 9 3;party p m 1 50;law yield 0;");
     x.tell(0, 0);
     y.tell(0, 0);
-    for (int day = 0; day < 60; day++) {
+    for (int day = 0; day < 40; day++) {
       x.ahead(99, 0);
       x.agrees();
       x.order(4);

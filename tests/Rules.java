@@ -31,6 +31,7 @@ public final class Rules {
     String code = bare(Files.readString(Path.of("src/main/java/GirlShots.java"), StandardCharsets.US_ASCII));
     source(code);
     methods(code);
+    made(code);
     Due.end();
   }
 
@@ -99,6 +100,15 @@ public final class Rules {
     while (calls.find()) Due.is("4: " + calls.group(), List.of("max", "min", "bitCount", "arraycopy").contains(calls.group(2)), true);
     Matcher thrown = Pattern.compile("throw ([^;]*);").matcher(code);
     while (thrown.find()) Due.is("6: " + thrown.group(), thrown.group(1).matches("new (IndexOutOfBounds|NoSuchElement)Exception\\(\"\"\\)"), true);
+  }
+
+  /** What is made is made with an object, once: every "new" stands in a field or behind throw. */
+  private static void made(String code) {
+    for (String line : code.split("\n")) {
+      if (!line.matches(".*\\bnew\\b.*")) continue;
+      boolean field = line.matches("(    |        )(private|final|private final) [\\w\\[\\]]+ \\w+ = new .*;");
+      Due.is("made behind the constructors: " + line, field || line.contains("throw new"), true);
+    }
   }
 
   private static void methods(String code) {
