@@ -662,6 +662,42 @@ public final class CallEdges {
     Due.is("b is first", x.order(0), 1);
   }
 
+  private static void edgeLeastByTrialOfAllWays() {
+    for (int film = 0; film < 12; film++) {
+      StringBuilder text = new StringBuilder();
+      for (int m = 0; m < 6; m++) text.append("mark ").append((char) ('a' + m)).append(" 0 ").append(film < 6 ? 3 : 6).append(';');
+      for (int s = 0; s < 8; s++) text.append("shot ").append((char) ('a' + s)).append(' ').append(1 + (film * 13 + s * s * 7) % 29).append(' ').append(s < 7 ? 0 : 1).append(';');
+      for (int k = 0; k < 20; k++)
+        text.append("has ").append((char) ('a' + k % 8)).append(' ').append((char) ('a' + (k % 8 * 5 + k / 8 * (1 + film % 2)) % 6)).append(' ').append((k * k + film) % (film < 6 ? 3 : 6)).append(';');
+      GirlShots x = behind(1, text.toString());
+      leastByTrial(x, film < 6 ? 3 : 6, text.toString());
+    }
+  }
+
+  /** Goes through all ways of six marks. */
+  private static void leastByTrial(GirlShots x, int ways, String text) {
+    int[] is = new int[48];
+    for (int k = 0; k < 48; k++) is[k] = x.shot(k / 6, 2) == 1 ? x.way(k / 6, k % 6) : -2;
+    int[] cost = new int[8];
+    for (int s = 0; s < 8; s++) cost[s] = x.shot(s, 0);
+    int best = -1;
+    int fewest = 0;
+    for (int row = 0; row < (int) Math.pow(ways, 6); row++) {
+      int sum = 0;
+      for (int s = 0; s < 8; s++) {
+        boolean clash = false;
+        for (int m = 0, part = row; m < 6; m++, part /= ways) clash |= is[s * 6 + 5 - m] >= 0 && is[s * 6 + 5 - m] != part % ways;
+        sum += clash ? cost[s] : 0;
+      }
+      if (best < 0 || sum < fewest) {
+        best = row;
+        fewest = sum;
+      }
+    }
+    Due.is("cost of " + text, x.least(6), fewest);
+    for (int m = 5; m >= 0; m--, best /= ways) Due.is("way " + m + " of " + text, x.least(m), best % ways);
+  }
+
   private static void edgeLeastAskedTwice() {
     GirlShots x = told("mark m 9 3;shot s 5 0;shot t 9 1;has s m 2;has t m 1;purse 0;");
     Due.is("nothing filmed", x.least(0) * 100 + x.least(6), 0);

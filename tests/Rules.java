@@ -22,7 +22,7 @@ public final class Rules {
       + "struckHow(int)int tell(int,int)boolean text(int)int there(int,int)long tried(int,int,int)int undo()int way(int,int)int without(int)int";
   private static final List<String> FORBIDDEN = List.of("synchronized", "assert", "finally", "instanceof", "var", "Exact", "getMessage",
       "->", "::", "Object", "System.out", "System.err", "nanoTime", "currentTimeMillis", "Random", "Thread", "Throwable",
-      "ArrayIndexOutOfBoundsException", "NullPointerException", "ClassCastException", "NegativeArraySizeException", "catch", "while");
+      "ArrayIndexOutOfBoundsException", "NullPointerException", "ClassCastException", "NegativeArraySizeException", "catch", "while", "clone", "copyOf");
 
   public static void main(String[] args) throws IOException {
     face();

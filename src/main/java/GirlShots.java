@@ -1635,7 +1635,7 @@ public final class GirlShots {
             }
             fill(ways, 0);
             cost = UNFOUND;
-            choose(0, 0);
+            choose(this, 0, 0, 0);
         }
 
         private static int clashesBy(Scene scene, int mark, int way) {
@@ -1650,25 +1650,38 @@ public final class GirlShots {
         }
 
         /** Ways for this mark and those behind it; more shots never cost less, so what is no better is left. */
-        private void choose(int mark, int shots) {
-            int sum = costOf(shots);
-            if (sum >= cost) {
+        private static void choose(Least least, int mark, int shots, int sum) {
+            if (sum >= least.cost) {
                 return;
             }
-            if (mark >= told.marks.size || mark >= MARKS) {
-                cost = sum;
-                copyRow(trial, ways);
+            if (mark >= least.told.marks.size || mark >= MARKS) {
+                least.cost = sum;
+                copyRow(least.trial, least.ways);
                 return;
             }
-            for (int way = 0; way < at(told.marks.second, mark); way++) {
-                put(trial, mark, way);
-                choose(mark + 1, shots | at(clashes, mark * MARKS + way));
+            for (int way = 0; way < at(least.told.marks.second, mark); way++) {
+                if (least.isWorth(mark, way)) {
+                    int more = at(least.clashes, mark * MARKS + way) & ~shots;
+                    put(least.trial, mark, way);
+                    choose(least, mark + 1, shots | more, sum + least.costOf(more));
+                }
             }
+        }
+
+        /** A way isn't worth a trial behind one by which no other shots would clash. */
+        private boolean isWorth(int mark, int way) {
+            int shots = at(clashes, mark * MARKS + way);
+            for (int before = 0; before < way; before++) {
+                if ((at(clashes, mark * MARKS + before) & ~shots) == 0) {
+                    return false;
+                }
+            }
+            return true;
         }
 
         private int costOf(int shots) {
             int sum = 0;
-            for (int shot = 0; shot < SHOTS; shot++) {
+            for (int shot = 0; shot < SHOTS && shots >> shot != 0; shot++) {
                 sum += (shots >> shot & 1) != 0 ? at(told.shots.first, shot) : 0;
             }
             return sum;
